@@ -1,0 +1,96 @@
+import java.util.function.IntSupplier;
+
+/** Collects the answers of a test that are not as due, and ends the program by them. */
+final class Check {
+    static final Class<? extends RuntimeException> ARGUMENT = IllegalArgumentException.class;
+    static final Class<? extends RuntimeException> INDEX = IndexOutOfBoundsException.class;
+    static final Class<? extends RuntimeException> ARRAY_INDEX = ArrayIndexOutOfBoundsException.class;
+    static final Class<? extends RuntimeException> STATE = IllegalStateException.class;
+    static final Class<? extends RuntimeException> UNSUPPORTED = UnsupportedOperationException.class;
+    static final Class<? extends RuntimeException> NEGATIVE_SIZE = NegativeArraySizeException.class;
+
+    private int asked = 0;
+    private int wrong = 0;
+
+    void due(String what, int want, int got) {
+        asked++;
+        if (got != want) {
+            tell(what + " answered " + got + ", due is " + want);
+        }
+    }
+
+    void due(String what, boolean want, boolean got) {
+        asked++;
+        if (got != want) {
+            tell(what + " answered " + got + ", due is " + want);
+        }
+    }
+
+    /** The class must be the very one that the document names, not one below it. */
+    void refused(String what, Class<? extends RuntimeException> want, IntSupplier call) {
+        asked++;
+        try {
+            int got = call.getAsInt();
+            tell(what + " answered " + got + ", due is " + want.getSimpleName());
+        } catch (RuntimeException e) {
+            if (e.getClass() != want) {
+                tell(what + " threw " + e + ", due is " + want.getSimpleName());
+            } else if (isOfTheMachine(e)) {
+                tell(what + " let the machine throw " + e);
+            }
+        }
+    }
+
+    void refused(String what, Class<? extends RuntimeException> want, Runnable call) {
+        refused(what, want, () -> {
+            call.run();
+            return 0;
+        });
+    }
+
+    /** What the machine throws bears a number in its text; what the class throws bears none. */
+    static boolean isOfTheMachine(RuntimeException e) {
+        String text = e.getMessage();
+        return e instanceof NullPointerException || e instanceof ClassCastException
+                || e instanceof ArithmeticException || e instanceof ArrayStoreException
+                || (text != null && text.matches(".*[0-9].*"));
+    }
+
+    void onInSlots(ChannelRows x, int channel, int from, int... messages) {
+        for (int i = 0; i < messages.length; i++) {
+            due("on(" + channel + ", " + (from + i) + ")", messages[i], x.on(channel, from + i));
+        }
+    }
+
+    void heardInSlots(ChannelRows x, int unit, int from, int... heard) {
+        for (int i = 0; i < heard.length; i++) {
+            due("hears(" + unit + ", " + (from + i) + ")", heard[i], x.hears(unit, from + i));
+        }
+    }
+
+    void unheardBy(ChannelRows x, int message, int... units) {
+        for (int i = 0; i < units.length; i++) {
+            due("unheard(" + message + ", " + i + ")", units[i], x.unheard(message, i));
+        }
+        due("unheard(" + message + ", " + units.length + ")", -1, x.unheard(message, units.length));
+    }
+
+    void endedAs(ChannelRows x, int message, int how, int slots) {
+        due("ended(" + message + ")", how, x.ended(message));
+        due("length(" + message + ")", slots, x.length(message));
+    }
+
+    private void tell(String text) {
+        wrong++;
+        System.out.println(text);
+    }
+
+    void close() {
+        System.out.println(wrong == 0
+                ? asked + " answers are as due"
+                : wrong + " of " + asked + " answers are not as due");
+        if (wrong != 0 || asked == 0) {
+            System.exit(1);
+        }
+    }
+}
