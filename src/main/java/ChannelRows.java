@@ -61,10 +61,7 @@ public final class ChannelRows {
 
     public int unit(int x, int y, int reach, int channel)
             throws IndexOutOfBoundsException, UnsupportedOperationException {
-        needPlace(x, y, channel);
-        needReach(reach);
-        needRoomFor(units);
-        return units.add(x, y, reach, channel);
+        return place(units, x, y, reach, channel);
     }
 
     public void go(int unit, int x, int y, int channel)
@@ -76,10 +73,7 @@ public final class ChannelRows {
 
     public int repeater(int x, int y, int reach, int channel)
             throws IndexOutOfBoundsException, UnsupportedOperationException {
-        needPlace(x, y, channel);
-        needReach(reach);
-        needRoomFor(repeaters);
-        return repeaters.add(x, y, reach, channel);
+        return place(repeaters, x, y, reach, channel);
     }
 
     public boolean patch(int a, int b) throws IndexOutOfBoundsException {
@@ -243,12 +237,6 @@ public final class ChannelRows {
         }
     }
 
-    private void needReach(int reach) {
-        if (reach < 0 || reach > MOST_REACH) {
-            throw new IndexOutOfBoundsException("no such reach");
-        }
-    }
-
     private void needBegin(int from, int rank) {
         if (!isSlot(from)) {
             throw new IndexOutOfBoundsException("no slot of that number");
@@ -261,12 +249,6 @@ public final class ChannelRows {
     private void needFreeBegin(int unit, int from) {
         if (messages.hasBegin(unit, from)) {
             throw new IllegalStateException("the unit has a message that begins in this slot");
-        }
-    }
-
-    private void needRoomFor(Stations stations) {
-        if (stations.isFull()) {
-            throw new UnsupportedOperationException("no room for one more");
         }
     }
 
@@ -294,6 +276,17 @@ public final class ChannelRows {
                 groupOf[c] = kept;
             }
         }
+    }
+
+    private int place(Stations stations, int x, int y, int reach, int channel) {
+        needPlace(x, y, channel);
+        if (reach < 0 || reach > MOST_REACH) {
+            throw new IndexOutOfBoundsException("no such reach");
+        }
+        if (stations.isFull()) {
+            throw new UnsupportedOperationException("no room for one more");
+        }
+        return stations.add(x, y, reach, channel);
     }
 
     private int tell(int unit, int from, int words, int rank) {
