@@ -1,6 +1,8 @@
+import java.util.ArrayList;
+import java.util.List;
 import java.util.function.IntSupplier;
 
-/** Collects the answers of a test that are not as due, and ends the program by them. */
+/** Collects the answers of one case that are not as due. */
 final class Check {
     static final Class<? extends RuntimeException> ARGUMENT = IllegalArgumentException.class;
     static final Class<? extends RuntimeException> INDEX = IndexOutOfBoundsException.class;
@@ -9,20 +11,13 @@ final class Check {
     static final Class<? extends RuntimeException> UNSUPPORTED = UnsupportedOperationException.class;
     static final Class<? extends RuntimeException> NEGATIVE_SIZE = NegativeArraySizeException.class;
 
+    private final List<String> wrong = new ArrayList<>();
     private int asked = 0;
-    private int wrong = 0;
 
-    void due(String what, int want, int got) {
+    void due(String what, Object want, Object got) {
         asked++;
-        if (got != want) {
-            tell(what + " answered " + got + ", due is " + want);
-        }
-    }
-
-    void due(String what, boolean want, boolean got) {
-        asked++;
-        if (got != want) {
-            tell(what + " answered " + got + ", due is " + want);
+        if (!want.equals(got)) {
+            wrong.add(what + " answered " + got + ", due is " + want);
         }
     }
 
@@ -31,12 +26,12 @@ final class Check {
         asked++;
         try {
             int got = call.getAsInt();
-            tell(what + " answered " + got + ", due is " + want.getSimpleName());
+            wrong.add(what + " answered " + got + ", due is " + want.getSimpleName());
         } catch (RuntimeException e) {
             if (e.getClass() != want) {
-                tell(what + " threw " + e + ", due is " + want.getSimpleName());
+                wrong.add(what + " threw " + e + ", due is " + want.getSimpleName());
             } else if (isOfTheMachine(e)) {
-                tell(what + " let the machine throw " + e);
+                wrong.add(what + " let the machine throw " + e);
             }
         }
     }
@@ -68,6 +63,7 @@ final class Check {
         }
     }
 
+    /** These units, in this order, and no more. */
     void unheardBy(ChannelRows x, int message, int... units) {
         for (int i = 0; i < units.length; i++) {
             due("unheard(" + message + ", " + i + ")", units[i], x.unheard(message, i));
@@ -80,17 +76,12 @@ final class Check {
         due("length(" + message + ")", slots, x.length(message));
     }
 
-    private void tell(String text) {
-        wrong++;
-        System.out.println(text);
+    /** A case that asks nothing holds nothing. */
+    List<String> faults() {
+        return asked == 0 && wrong.isEmpty() ? List.of("nothing was asked") : wrong;
     }
 
-    void close() {
-        System.out.println(wrong == 0
-                ? asked + " answers are as due"
-                : wrong + " of " + asked + " answers are not as due");
-        if (wrong != 0 || asked == 0) {
-            System.exit(1);
-        }
+    void fails(String text) {
+        wrong.add(text);
     }
 }

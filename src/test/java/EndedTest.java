@@ -1,86 +1,66 @@
-/** Promises 13 and 14: ended and length. */
+/** Promise 13: ended (when a message ends how: TermsAirTest). */
 public final class EndedTest {
     public static void main(String[] args) {
-        Check check = new Check();
-        everyEnding(check);
-        cutInItsLastSlot(check);
-        theDaysEnd(check);
-        wrongInputs(check);
-        check.close();
+        Cases cases = new Cases();
+        cases.edges("message", 0, 3, Check.ARGUMENT, Worlds::busy, ChannelRows::ended);
+        cases.edges("message of 60:", 0, 59, Check.ARGUMENT, Worlds::fullOfMessages,
+                ChannelRows::ended);
+        cases.refused("there are no messages", Check.ARGUMENT, () -> Worlds.units(2, 8),
+                x -> x.ended(0));
+        cases.refused("there are no slots", Check.ARGUMENT, ChannelRows::new, x -> x.ended(0));
+        for (int how = 0; how < 5; how++) {
+            int message = how;
+            cases.test("ended " + how, check ->
+                    check.due("ended", message, everyEnding().ended(message)));
+        }
+        cases.test("it is as of now: the limit", EndedTest::limitTurnsIt);
+        cases.test("it is as of now: patches", EndedTest::patchTurnsIt);
+        cases.test("noise and goers do not turn it", EndedTest::whatDoesNotTurnIt);
+        cases.close();
     }
 
-    private static ChannelRows threeUnits(int slots) {
-        ChannelRows x = new ChannelRows();
-        x.day(slots);
-        for (int i = 0; i < 3; i++) {
-            x.unit(i, 0, 100, 0);
-        }
+    /** Each message bears the number of how it ended. */
+    private static ChannelRows everyEnding() {
+        ChannelRows x = Worlds.units(4, 20);
+        x.limit(5);
+        x.speak(0, 0, 5, 5);
+        x.speak(0, 6, 4, 1);
+        x.speak(2, 10, 6, 5);
+        x.speak(3, 10, 1, 4);
+        x.speak(1, 19, 2, 0);
+        x.speak(3, 7, 1, 2);
         return x;
     }
 
-    private static void everyEnding(Check check) {
-        ChannelRows x = threeUnits(20);
-        x.speak(0, 0, 0, 1);
-        x.speak(0, 1, 4, 1);
-        x.speak(1, 2, 3, 2);
-        x.speak(2, 3, 3, 2);
-        x.speak(0, 19, 2, 0);
-        check.endedAs(x, 0, 0, 1);
-        check.endedAs(x, 1, 1, 2);
-        check.endedAs(x, 2, 0, 3);
-        check.endedAs(x, 3, 3, 0);
-        check.endedAs(x, 4, 4, 1);
+    private static void limitTurnsIt(Check check) {
+        ChannelRows x = everyEnding();
         x.limit(1);
-        check.endedAs(x, 0, 0, 1);
-        check.endedAs(x, 1, 2, 1);
-        check.endedAs(x, 2, 2, 1);
-        check.endedAs(x, 3, 2, 1);
-        check.endedAs(x, 4, 2, 1);
+        int[] due = {2, 2, 2, 3, 2, 0};
+        for (int m = 0; m < due.length; m++) {
+            check.due("ended(" + m + ")", due[m], x.ended(m));
+        }
     }
 
-    private static void cutInItsLastSlot(Check check) {
-        ChannelRows x = threeUnits(20);
-        x.speak(0, 1, 3, 1);
-        x.speak(1, 3, 2, 2);
-        check.endedAs(x, 0, 0, 3);
-        check.endedAs(x, 1, 0, 2);
-        check.onInSlots(x, 0, 3, 0, 1, 1, -1);
-        x.speak(2, 10, 3, 4);
-        x.speak(1, 12, 1, 4);
-        check.endedAs(x, 2, 0, 3);
-        check.endedAs(x, 3, 3, 0);
-        x.speak(0, 10, 1, 5);
-        check.endedAs(x, 2, 3, 0);
-        check.endedAs(x, 3, 0, 1);
+    private static void patchTurnsIt(Check check) {
+        ChannelRows x = Worlds.day(4);
+        x.unit(0, 0, 0, 0);
+        x.unit(0, 0, 0, 1);
+        x.speak(0, 0, 3, 0);
+        x.speak(1, 1, 1, 1);
+        check.due("apart", 0, x.ended(0));
+        x.patch(0, 1);
+        check.due("together", 1, x.ended(0));
     }
 
-    private static void theDaysEnd(Check check) {
-        ChannelRows x = threeUnits(10);
-        x.speak(0, 7, 3, 1);
-        check.endedAs(x, 0, 0, 3);
-        x.speak(1, 9, 1, 2);
-        check.endedAs(x, 0, 0, 3);
-        check.endedAs(x, 1, 4, 0);
-        x.speak(0, 6, 5, 1);
-        check.endedAs(x, 2, 4, 4);
-        check.endedAs(x, 0, 3, 0);
-        check.endedAs(x, 1, 4, 0);
-        x.speak(2, 8, 2, 5);
-        check.endedAs(x, 2, 1, 3);
-        check.endedAs(x, 3, 4, 1);
-        check.endedAs(x, 1, 3, 0);
-    }
-
-    private static void wrongInputs(Check check) {
-        ChannelRows x = threeUnits(10);
-        check.refused("ended, none yet", Check.ARGUMENT, () -> x.ended(0));
-        check.refused("length, none yet", Check.ARGUMENT, () -> x.length(0));
-        x.speak(0, 0, 1, 0);
-        check.refused("ended below", Check.ARGUMENT, () -> x.ended(-1));
-        check.refused("ended above", Check.ARGUMENT, () -> x.ended(1));
-        check.refused("length below", Check.ARGUMENT, () -> x.length(-1));
-        check.refused("length above", Check.ARGUMENT, () -> x.length(1));
-        check.refused("ended far above", Check.ARGUMENT, () -> x.ended(Integer.MAX_VALUE));
-        check.refused("length far below", Check.ARGUMENT, () -> x.length(Integer.MIN_VALUE));
+    private static void whatDoesNotTurnIt(Check check) {
+        ChannelRows x = everyEnding();
+        x.lose(0);
+        x.lose(19);
+        x.go(0, 9999, 9999, 5);
+        x.go(3, 9999, 9999, 5);
+        x.repeater(0, 0, 0, 0);
+        for (int m = 0; m < 5; m++) {
+            check.due("ended(" + m + ")", m, x.ended(m));
+        }
     }
 }

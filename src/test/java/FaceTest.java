@@ -30,23 +30,40 @@ public final class FaceTest {
     };
 
     public static void main(String[] args) {
-        Check check = new Check();
+        Cases cases = new Cases();
+        cases.test("the class is public and final", FaceTest::theClass);
+        cases.test("one constructor, public, without parameters", FaceTest::constructor);
+        cases.test("the methods of the document alone", FaceTest::methods);
+        cases.test("fields are private, static ones final", FaceTest::fields);
+        cases.test("classes inside are static, and not public", FaceTest::classesInside);
+        cases.close();
+    }
+
+    private static void theClass(Check check) {
         int modifiers = ChannelRows.class.getModifiers();
         check.due("public and final", true, Modifier.isPublic(modifiers) && Modifier.isFinal(modifiers));
+    }
+
+    private static void constructor(Check check) {
         Constructor<?>[] made = ChannelRows.class.getDeclaredConstructors();
         check.due("constructors", 1, made.length);
         check.due("public, without parameters", true,
                 Modifier.isPublic(made[0].getModifiers()) && made[0].getParameterCount() == 0);
-        methods(check);
+    }
+
+    private static void fields(Check check) {
         for (Field field : ChannelRows.class.getDeclaredFields()) {
             check.due("private: " + field, true, Modifier.isPrivate(field.getModifiers()));
             check.due("no static state: " + field, true, !Modifier.isStatic(field.getModifiers())
                     || Modifier.isFinal(field.getModifiers()));
         }
+    }
+
+    private static void classesInside(Check check) {
         for (Class<?> inner : ChannelRows.class.getDeclaredClasses()) {
             check.due("static: " + inner, true, Modifier.isStatic(inner.getModifiers()));
+            check.due("public: " + inner, false, Modifier.isPublic(inner.getModifiers()));
         }
-        check.close();
     }
 
     private static void methods(Check check) {

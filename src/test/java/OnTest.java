@@ -1,86 +1,76 @@
-/** Promise 12: on. */
+/** Promise 12: on (what is on when: TermsAirTest). */
 public final class OnTest {
     public static void main(String[] args) {
-        Check check = new Check();
-        beginsThatMeet(check);
-        ranksThatBreakIn(check);
-        breakInsInARow(check);
-        lastSlots(check);
-        wrongInputs(check);
-        check.close();
+        Cases cases = new Cases();
+        cases.edges("channel", 0, 5, Check.ARGUMENT, Worlds::busy, (x, v) -> x.on(v, 0));
+        cases.edges("slot", 0, 7, Check.ARRAY_INDEX, Worlds::busy, (x, v) -> x.on(0, v));
+        cases.edges("slot of 1000:", 0, 999, Check.ARRAY_INDEX, () -> Worlds.day(1000),
+                (x, v) -> x.on(0, v));
+        cases.edges("slot of 1:", 0, 0, Check.ARRAY_INDEX, () -> Worlds.day(1),
+                (x, v) -> x.on(0, v));
+        cases.refused("there are no slots", Check.ARRAY_INDEX, () -> Worlds.day(0),
+                x -> x.on(5, 0));
+        cases.refused("no channel, no slot", Check.ARGUMENT, Worlds::busy, x -> x.on(6, 8));
+        cases.refused("no channel in a day of no slots", Check.ARGUMENT, ChannelRows::new,
+                x -> x.on(-1, -1));
+        cases.test("none at all: -1", OnTest::noneAtAll);
+        cases.test("message 0 is not none", OnTest::messageZero);
+        cases.test("in each channel its own", OnTest::inEachChannel);
+        cases.test("in each channel of the group", OnTest::inEachOfTheGroup);
+        cases.test("asked by a channel where nobody is", OnTest::whereNobodyIs);
+        cases.test("the last of 60", OnTest::lastOfAll);
+        cases.close();
     }
 
-    private static ChannelRows units(int howMany, int slots) {
-        ChannelRows x = new ChannelRows();
-        x.day(slots);
-        for (int i = 0; i < howMany; i++) {
-            x.unit(i, 0, 100, 0);
+    private static void noneAtAll(Check check) {
+        ChannelRows x = Worlds.units(3, 2);
+        for (int c = 0; c < 6; c++) {
+            check.onInSlots(x, c, 0, -1, -1);
         }
-        return x;
     }
 
-    private static void beginsThatMeet(Check check) {
-        ChannelRows x = units(4, 10);
-        x.speak(0, 1, 2, 3);
-        x.speak(1, 1, 2, 4);
-        check.onInSlots(x, 0, 0, -1, 1, 1, -1);
-        x.speak(2, 1, 2, 4);
-        check.onInSlots(x, 0, 0, -1, -1, -1, -1);
-        x.speak(3, 1, 1, 5);
-        check.onInSlots(x, 0, 0, -1, 3, -1, -1);
+    private static void messageZero(Check check) {
+        ChannelRows x = Worlds.units(1, 3);
+        x.speak(0, 1, 0, 0);
+        check.onInSlots(x, 0, 0, -1, 0, -1);
     }
 
-    private static void ranksThatBreakIn(Check check) {
-        ChannelRows x = units(4, 12);
-        x.speak(0, 1, 8, 3);
-        x.speak(1, 3, 2, 2);
-        check.onInSlots(x, 0, 0, -1, 0, 0, 0, 0, 0, 0, 0, 0, -1);
-        x.speak(1, 4, 2, 3);
-        check.onInSlots(x, 0, 0, -1, 0, 0, 0, 0, 0, 0, 0, 0, -1);
-        x.speak(1, 5, 2, 4);
-        check.onInSlots(x, 0, 0, -1, 0, 0, 0, 0, 0, 3, 3, -1, -1);
-        x.speak(2, 5, 1, 4);
-        check.onInSlots(x, 0, 0, -1, 0, 0, 0, 0, 0, 0, 0, 0, -1);
-        x.speak(3, 5, 1, 5);
-        check.onInSlots(x, 0, 0, -1, 0, 0, 0, 0, 0, 5, -1, -1, -1);
-    }
-
-    private static void breakInsInARow(Check check) {
-        ChannelRows x = units(4, 12);
-        x.speak(0, 1, 9, 1);
-        x.speak(1, 2, 9, 2);
-        x.speak(2, 3, 9, 3);
-        x.speak(3, 4, 2, 4);
-        check.onInSlots(x, 0, 0, -1, 0, 0, 1, 2, 3, 3, -1);
-        for (int m = 0; m < 3; m++) {
-            check.due("cut in a row, " + m, 1, x.ended(m));
+    private static void inEachChannel(Check check) {
+        ChannelRows x = Worlds.day(3);
+        for (int c = 0; c < 6; c++) {
+            x.unit(0, 0, 9, c);
+            x.speak(c, 0, 1 + c % 3, 0);
         }
-        check.due("the same unit breaks in on itself", 4, x.speak(3, 5, 3, 5));
-        check.onInSlots(x, 0, 4, 2, 3, 4, 4, 4, -1);
+        for (int c = 0; c < 6; c++) {
+            check.onInSlots(x, c, 0, c, c % 3 > 0 ? c : -1, c % 3 > 1 ? c : -1);
+        }
     }
 
-    private static void lastSlots(Check check) {
-        ChannelRows x = units(3, 8);
-        x.speak(0, 1, 2, 5);
-        x.speak(1, 2, 3, 5);
-        check.onInSlots(x, 0, 0, -1, 0, 0, -1, -1);
-        x.speak(2, 2, 3, 6);
-        check.onInSlots(x, 0, 0, -1, 0, 0, 2, 2, 2, -1);
-        x.speak(1, 3, 1, 0);
-        check.onInSlots(x, 0, 0, -1, 0, 0, 2, 2, 2, -1);
-        x.speak(1, 6, 9, 0);
-        check.onInSlots(x, 0, 5, 2, 4, 4);
-        x.speak(2, 7, 1, 1);
-        check.onInSlots(x, 0, 5, 2, 4, 4);
+    private static void inEachOfTheGroup(Check check) {
+        ChannelRows x = Worlds.units(1, 3);
+        x.patch(5, 3);
+        x.patch(3, 0);
+        x.speak(0, 1, 1, 0);
+        int[] due = {0, -1, -1, 0, -1, 0};
+        for (int c = 0; c < 6; c++) {
+            check.onInSlots(x, c, 0, -1, due[c], -1);
+        }
     }
 
-    private static void wrongInputs(Check check) {
-        ChannelRows x = units(1, 3);
-        check.refused("channel below", Check.ARGUMENT, () -> x.on(-1, 0));
-        check.refused("channel above", Check.ARGUMENT, () -> x.on(6, 0));
-        check.refused("no channel, no slot", Check.ARGUMENT, () -> x.on(6, 3));
-        check.refused("slot below", Check.ARRAY_INDEX, () -> x.on(0, -1));
-        check.refused("slot above", Check.ARRAY_INDEX, () -> x.on(0, 3));
-        check.due("the last channel, the last slot", -1, x.on(5, 2));
+    private static void whereNobodyIs(Check check) {
+        ChannelRows x = Worlds.units(1, 3);
+        x.speak(0, 0, 3, 0);
+        check.onInSlots(x, 4, 0, -1, -1, -1);
+        x.patch(4, 0);
+        check.onInSlots(x, 4, 0, 0, 0, 0);
+    }
+
+    private static void lastOfAll(Check check) {
+        ChannelRows x = Worlds.units(1, 60);
+        for (int i = 0; i < 60; i++) {
+            x.speak(0, 59 - i, 1, 0);
+        }
+        check.due("in the first slot", 59, x.on(0, 0));
+        check.due("in the last slot", 0, x.on(0, 59));
     }
 }
