@@ -43,12 +43,12 @@ final class Check {
         });
     }
 
-    /** What the machine throws bears a number in its text; what the class throws bears none. */
+    /** By its class, or by the text that the machine and the library write into it. */
     static boolean isOfTheMachine(RuntimeException e) {
         String text = e.getMessage();
         return e instanceof NullPointerException || e instanceof ClassCastException
                 || e instanceof ArithmeticException || e instanceof ArrayStoreException
-                || (text != null && text.matches(".*[0-9].*"));
+                || (text != null && text.matches("-?[0-9]+|.*[0-9]+ out of bounds for .*|.*arraycopy.*"));
     }
 
     void onInSlots(ChannelRows x, int channel, int from, int... messages) {
