@@ -1,11 +1,15 @@
 import java.io.IOException;
 import java.io.UncheckedIOException;
+import java.lang.reflect.Executable;
+import java.lang.reflect.Modifier;
 import java.nio.file.Files;
 import java.nio.file.Path;
+import java.util.ArrayList;
 import java.util.List;
 import java.util.Set;
 import java.util.regex.MatchResult;
 import java.util.regex.Pattern;
+import java.util.stream.Stream;
 
 /** The rules of LANGUAGE.md that can be seen in the text of the class; run from the project's folder. */
 public final class LanguageTest {
@@ -39,11 +43,27 @@ public final class LanguageTest {
         cases.test("no lambda, no method reference", check ->
                 check.due("times", 0, count(text, "->|::")));
         cases.test("no exact arithmetic", check -> check.due("times", 0, count(text, "Exact\\(")));
+        cases.test("parameters, classes and fields are few", LanguageTest::areFew);
         for (String word : RULED_OUT) {
             cases.test("nowhere " + word, check ->
                     check.due("times", 0, count(text, "\\b" + Pattern.quote(word) + "\\b")));
         }
         cases.close();
+    }
+
+    private static void areFew(Check check) {
+        List<Class<?>> all = new ArrayList<>(List.of(ChannelRows.class.getDeclaredClasses()));
+        all.add(ChannelRows.class);
+        check.due("at most twelve classes", true, all.size() <= 12);
+        for (Class<?> one : all) {
+            long fields = Stream.of(one.getDeclaredFields())
+                    .filter(field -> !Modifier.isStatic(field.getModifiers())).count();
+            check.due("at most twenty fields: " + one, true, fields <= 20);
+            Stream.<Executable>concat(Stream.of(one.getDeclaredMethods()),
+                    Stream.of(one.getDeclaredConstructors())).forEach(method -> check.due(
+                            "at most seven parameters: " + method, true,
+                            method.getParameterCount() <= 7));
+        }
     }
 
     private static void isOneFile(Check check) {
